@@ -113,7 +113,7 @@ final class Checks {
         return x;
     }
 
-    /** A figure that is done and worn by this much, an even number below 100, is back in the store. */
+    /** The figure, done and in the store, goes on tour for half as many days, and is back in the store, more worn. */
     static void wearOnTour(Waxrow x, int figure, int wear) {
         int days = wear / 2;
         for (int gone = 0; gone < days; gone += 40) {

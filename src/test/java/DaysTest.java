@@ -7,6 +7,8 @@ public final class DaysTest {
         drawsShareTheTouches();
         drawsAreThoseAheadOfTheWear();
         monthCountsForTheSameDay();
+        drawOfOneTakesAll();
+        lastRoomCountsLikeTheOthers();
         wearHasThreeParts();
         warmthHarmsAboveTwentyFive();
         wearMelts();
@@ -120,6 +122,34 @@ public final class DaysTest {
         x.pass(1, 710, 0);
         Checks.due("460 of 710", 460, x.ofFigure(0, 11));
         Checks.due("250 of 710", 250, x.ofFigure(1, 11));
+    }
+
+    private static void drawOfOneTakesAll() {
+        Waxrow x = Checks.houseThatShows(1, 0);
+        x.price(0);
+        Checks.due("draw", 1, x.ofFigure(0, 10));
+        x.pass(1, 700, 0);
+        Checks.due("all touch it", 700, x.ofFigure(0, 11));
+    }
+
+    private static void lastRoomCountsLikeTheOthers() {
+        Waxrow x = Checks.houseThatShows(500, 0);
+        Checks.doneFigure(x, Checks.measuredPerson(x, 300, 50, 0));
+        for (int room = 1; room < 5; room++) {
+            x.room(0, 1);
+        }
+        x.show(1, 4);
+        Checks.due("where it is", 4, x.ofFigure(1, 8));
+        Checks.due("shown", 2, x.many(4));
+        Checks.due("all draws", 800, x.many(14));
+        x.price(0);
+        x.pass(1, 800, 0);
+        Checks.due("its part", 300, x.ofFigure(1, 11));
+        Checks.due("the other's part", 500, x.ofFigure(0, 11));
+        Checks.due("both likenesses", 96.0, x.meanLikeness());
+        x.take(0);
+        Checks.due("its own alone", 97.0, x.meanLikeness());
+        Checks.due("one is shown", 1, x.many(4));
     }
 
     private static void wearHasThreeParts() {

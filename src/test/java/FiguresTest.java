@@ -6,6 +6,7 @@ public final class FiguresTest {
         workGoesThroughTheSteps();
         workIsRefused();
         flawIsKeptAtStepOne();
+        likenessIsNotBelowZero();
         swapGivesHeadAndFlaw();
         swapIsRefused();
         mendTakesWaxAsFarAsThereIs();
@@ -109,6 +110,19 @@ public final class FiguresTest {
         x.pass(1, 0, 0);
         Checks.due("later doubt leaves it", 82, x.ofFigure(0, 5));
         Checks.due("doubt now", 66, x.ofPerson(0, 8));
+    }
+
+    private static void likenessIsNotBelowZero() {
+        Waxrow x = new Waxrow();
+        x.person(500, 500, 500);
+        x.consent(0, true);
+        Checks.doneFigure(x, 0);
+        Checks.due("a flaw of 99", 1, x.ofFigure(0, 7));
+        Checks.wearOnTour(x, 0, 2);
+        Checks.due("a wear of 2, too", 0, x.ofFigure(0, 7));
+        Checks.wearOnTour(x, 0, 20);
+        Checks.due("0 at least", 0, x.ofFigure(0, 7));
+        Checks.due("nothing to see on tour", 0, x.tour(0, 1, 1));
     }
 
     /** Figure 0 of a small person without doubt, figure 1 of a tall one with a doubt of 6. */

@@ -1,3 +1,5 @@
+import java.util.Arrays;
+
 /** Promises 27 to 31: wouldFame, readyIn, meltsIn, bestNext, digest. */
 public final class WouldBeTest {
     public static void main(String[] args) {
@@ -8,12 +10,15 @@ public final class WouldBeTest {
         meltsInIsWhatHappens();
         meltsInReachesSixtyDays();
         meltsInTakesAllThatGoesOn();
+        meltsInKnowsHeadsAndFlaws();
         meltsInIsNoneOutsideOfRooms();
         meltsInIsRefused();
         bestNextIsTheMostFamous();
+        bestNextLooksSixMonthsAhead();
         bestNextLooksAtDoubtThenNumber();
         bestNextLeavesOutHeads();
         digestFoldsAllAnswers();
+        digestAsksOfNineHundredVisitorsAndThirtyOfWarmth();
         digestOfSingleThings();
         Checks.finish();
     }
@@ -112,40 +117,13 @@ public final class WouldBeTest {
     }
 
     private static void meltsInTakesAllThatGoesOn() {
-        Waxrow x = Checks.houseThatShows(600, 0);
-        Checks.doneFigure(x, Checks.measuredPerson(x, 300, 50, 0));
-        Checks.doneFigure(x, 1);
-        x.show(1, x.room(9, 2));
-        x.tour(2, 1, 3);
-        x.trend(0, 0, -40);
-        x.trend(1, 0, 40);
-        x.work(x.figure(1), 2);
         for (int visitors = 0; visitors <= 2000; visitors += 125) {
-            checkForecast(x, visitors, 24 + visitors / 125);
+            checkForecast(houseWithMuchGoingOn(5), houseWithMuchGoingOn(5), visitors, 24 + visitors / 125);
         }
-        x.price(1);
-        checkForecast(x, 700, 30);
+        checkForecast(houseWithMuchGoingOn(1), houseWithMuchGoingOn(1), 700, 30);
     }
 
-    /** A second house goes through the same days, one by one, and is melted when the first one says. */
-    private static void checkForecast(Waxrow x, int visitors, int warmth) {
-        Waxrow twin = twinOf(x.many(13));
-        int[] meltedOn = {-1, -1};
-        for (int day = 1; day <= 60; day++) {
-            twin.pass(1, visitors, warmth);
-            for (int figure = 0; figure < 2; figure++) {
-                if (meltedOn[figure] < 0 && twin.ofFigure(figure, 8) == 7) {
-                    meltedOn[figure] = day;
-                }
-            }
-        }
-        for (int figure = 0; figure < 2; figure++) {
-            Checks.due("figure " + figure + " with " + visitors + " and " + warmth, meltedOn[figure],
-                    x.meltsIn(figure, visitors, warmth));
-        }
-    }
-
-    private static Waxrow twinOf(int price) {
+    private static Waxrow houseWithMuchGoingOn(int price) {
         Waxrow x = Checks.houseThatShows(600, 0);
         Checks.doneFigure(x, Checks.measuredPerson(x, 300, 50, 0));
         Checks.doneFigure(x, 1);
@@ -156,6 +134,50 @@ public final class WouldBeTest {
         x.work(x.figure(1), 2);
         x.price(price);
         return x;
+    }
+
+    /** A twin of the house goes through the days, one by one: its figures are melted when the house says. */
+    private static void checkForecast(Waxrow x, Waxrow twin, int visitors, int warmth) {
+        int[] meltedOn = new int[x.many(2)];
+        Arrays.fill(meltedOn, -1);
+        for (int day = 1; day <= 60; day++) {
+            twin.pass(1, visitors, warmth);
+            for (int figure = 0; figure < meltedOn.length; figure++) {
+                if (meltedOn[figure] < 0 && twin.ofFigure(figure, 8) == 7) {
+                    meltedOn[figure] = day;
+                }
+            }
+        }
+        for (int figure = 0; figure < meltedOn.length; figure++) {
+            Checks.due("figure " + figure + " with " + visitors + " and " + warmth, meltedOn[figure],
+                    x.meltsIn(figure, visitors, warmth));
+        }
+    }
+
+    /** Two that share the touches by likeness, which a swapped head of another height and flaws make unlike. */
+    private static Waxrow houseOfUnlikeTwo() {
+        Waxrow x = new Waxrow();
+        Checks.measuredPerson(x, 900, 20, 9);
+        Checks.measuredPerson(x, 900, 90, 1);
+        Checks.measuredPerson(x, 900, 50, 0);
+        for (int i = 0; i < 3; i++) {
+            Checks.doneFigure(x, i);
+        }
+        x.swap(0, 1);
+        x.room(1, 4);
+        x.show(0, 0);
+        x.show(2, 0);
+        x.price(0);
+        return x;
+    }
+
+    private static void meltsInKnowsHeadsAndFlaws() {
+        Waxrow x = houseOfUnlikeTwo();
+        Checks.due("likeness of the swapped one", 63, x.ofFigure(0, 7));
+        Checks.due("likeness of the other", 100, x.ofFigure(2, 7));
+        for (int visitors = 0; visitors <= 2000; visitors += 50) {
+            checkForecast(x, houseOfUnlikeTwo(), visitors, 26);
+        }
     }
 
     private static void meltsInIsNoneOutsideOfRooms() {
@@ -206,6 +228,21 @@ public final class WouldBeTest {
         Checks.due("100 behind six months", 1, x.bestNext());
         x.consent(1, false);
         Checks.due("without consent", 2, x.bestNext());
+    }
+
+    private static void bestNextLooksSixMonthsAhead() {
+        Waxrow x = new Waxrow();
+        x.person(115, 0, 0);
+        x.person(70, 0, 0);
+        x.consent(0, true);
+        x.consent(1, true);
+        // 10, 9, 8, 7, 6, 5, 4: 40 in five months, 45 in six, 49 in seven.
+        x.trend(1, 0, 10);
+        Checks.due("115 each", 0, x.bestNext());
+        x.news(0, -1);
+        Checks.due("115 against 114", 1, x.bestNext());
+        x.news(0, 2);
+        Checks.due("115 against 116", 0, x.bestNext());
     }
 
     private static void bestNextLooksAtDoubtThenNumber() {
@@ -292,6 +329,37 @@ public final class WouldBeTest {
         Checks.due("of a house at work", foldOf(y), y.digest());
         Checks.due("asked again", foldOf(y), y.digest());
         Checks.due("nothing is changed", before, Checks.stateOf(y));
+    }
+
+    private static void digestAsksOfNineHundredVisitorsAndThirtyOfWarmth() {
+        Waxrow warm = Checks.houseThatShows(0, 9);
+        Checks.due("seven a day", 15, warm.meltsIn(0, 900, 30));
+        Checks.due("eight a day", 13, warm.meltsIn(0, 900, 31));
+        Checks.due("six a day", 17, warm.meltsIn(0, 900, 29));
+        Checks.due("of a warm house", foldOf(warm), warm.digest());
+        Waxrow full = Checks.houseThatShows(500, 3);
+        full.price(0);
+        Checks.due("twenty a day", 5, full.meltsIn(0, 900, 30));
+        Checks.due("nineteen a day", 6, full.meltsIn(0, 899, 30));
+        Checks.due("of a full house", foldOf(full), full.digest());
+        Waxrow shared = houseOfTwoWornByNinety();
+        Checks.due("8 and 1", 2, shared.meltsIn(0, 900, 30));
+        Checks.due("9 and 1", 1, shared.meltsIn(0, 901, 30));
+        Checks.due("of a house with two", foldOf(shared), shared.digest());
+    }
+
+    /** The draws are 548 and 549, so that just half of 900 visitors do not touch the first. */
+    private static Waxrow houseOfTwoWornByNinety() {
+        Waxrow x = new Waxrow();
+        x.price(0);
+        x.room(2, 2);
+        for (int i = 0; i < 2; i++) {
+            Checks.doneFigure(x, Checks.measuredPerson(x, 998 + i, 50, 0));
+            Checks.wearOnTour(x, i, 90);
+            x.show(i, 0);
+        }
+        Checks.due("wear ahead of the second", 90, x.ofFigure(0, 6));
+        return x;
     }
 
     private static void digestOfSingleThings() {
