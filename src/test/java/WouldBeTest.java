@@ -283,7 +283,7 @@ public final class WouldBeTest {
     }
 
     /** The fold as the document tells it, over what the public calls answer. */
-    private static long foldOf(Waxrow x) {
+    static long foldOf(Waxrow x) {
         long d = 58234;
         for (int what = 0; what <= 14; what++) {
             d = d * 31 + x.many(what);
