@@ -19,7 +19,6 @@ public final class WouldBeTest {
         bestNextLeavesOutHeads();
         digestFoldsAllAnswers();
         digestAsksOfNineHundredVisitorsAndThirtyOfWarmth();
-        digestOfSingleThings();
         Checks.finish();
     }
 
@@ -360,15 +359,5 @@ public final class WouldBeTest {
         }
         Checks.due("wear ahead of the second", 90, x.ofFigure(0, 6));
         return x;
-    }
-
-    private static void digestOfSingleThings() {
-        // 58234, then 0 eight times, 200, 30, 0, 0, 0, 5, 0, and -1 for bestNext.
-        long d = 58234;
-        int[] empty = {0, 0, 0, 0, 0, 0, 0, 0, 200, 30, 0, 0, 0, 5, 0, -1};
-        for (int v : empty) {
-            d = d * 31 + v;
-        }
-        Checks.due("of a new house", d, new Waxrow().digest());
     }
 }
