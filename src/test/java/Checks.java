@@ -46,6 +46,10 @@ final class Checks {
         }
     }
 
+    static void holds(String what, boolean is) {
+        due(what, "true", String.valueOf(is));
+    }
+
     private static void tellWrong(String text) {
         wrong++;
         if (wrong <= MOST_PRINTED) {
